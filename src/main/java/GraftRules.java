@@ -294,7 +294,7 @@ public final class GraftRules {
             int node = spot / 2;
             int side = spot & 1;
             int lower = figureAt(node);
-            if (lower == LEAF) {
+            if (spot < 0 || lower == LEAF) {
                 return NONE;
             }
             int upper = figureAt(side == LEFT ? node + 1 : endOf(node + 1));

@@ -223,6 +223,28 @@ public final class PromisesTest {
         is("five are bad: the first by code", y.told(4), code("a.a.a.."));
         rulesWithoutEnd();
         ownDual();
+        eachAskedFirst();
+    }
+
+    private static void eachAskedFirst() {
+        int[] withRule = {1, 1, code("aaa...."), 0};
+        int[] cleared = {0, 0, NONE, 1};
+        for (int what = 2; what <= 5; what++) {
+            GraftRules x = new GraftRules();
+            x.fate(0, 3, 1);
+            is("asked first: told " + what, x.told(what), withRule[what - 2]);
+            x.clear();
+            is("cleared: told " + what, x.told(what), cleared[what - 2]);
+            x.undo(1);
+            is("undone: told " + what, x.told(what), withRule[what - 2]);
+        }
+        GraftRules y = new GraftRules();
+        is("asked first: undoneBy 3", y.undoneBy(3), 0);
+        y.fate(0, 1, 0);
+        is("with a rule: undoneBy 3", y.undoneBy(3), 1);
+        y.undo(1);
+        is("undone: undoneBy 3", y.undoneBy(3), 0);
+        is("asked behind that: count 3", y.count(3), 8);
     }
 
     private static void rulesWithoutEnd() {
@@ -513,6 +535,21 @@ public final class PromisesTest {
         is("step -1", x.step(-1, 0), UNKNOWN);
         is("unknown ahead of outside", x.step(2, 9), UNKNOWN);
         placesLeftFirst();
+        lastPlace();
+    }
+
+    private static void lastPlace() {
+        GraftRules x = with("a.a.a.a.a.b..", "b.b.b.b.b.b..");
+        x.fate(3, 2, 2);
+        x.fate(7, 3, 6);
+        is("last: places", x.tree(0, 3), 1);
+        is("last: step", x.step(0, 0), 0);
+        is("last: code", x.tree(0, 0), code("a.a.a.a.ab..."));
+        is("five places", x.tree(1, 3), 5);
+        is("the last of five", x.step(1, 4), 4);
+        is("the last of five: code", x.tree(1, 0), code("b.b.b.b.bb..."));
+        is("the last of five: sign", x.tree(1, 1), 0);
+        is("no sixth", x.step(1, 5), OUTSIDE);
     }
 
     private static void placesLeftFirst() {
@@ -582,6 +619,12 @@ public final class PromisesTest {
         is("nothing: code", x.tree(2, 0), 0);
         is("nothing: sign", x.tree(2, 1), 1);
         is("nothing is plain", x.plain(2), 0);
+        is("tell behind it", type(x, "."), 3);
+        is("its sign is 1", x.tree(3, 1), 2);
+        x.tree(2, 1);
+        is("drift behind it", x.drift(1), 5);
+        is("the sign of that is 1", x.tree(4, 1), 2);
+        is("undo both", x.undo(2), 3);
         is("plain 3", x.plain(3), UNKNOWN);
         is("plain -1", x.plain(-1), UNKNOWN);
         is("plain highest", x.plain(HIGH), UNKNOWN);
@@ -638,6 +681,9 @@ public final class PromisesTest {
         is("told", x.told(0), 0);
         is("tell then", type(x, "b.."), 0);
         is("sign 1 then", x.tree(0, 1), 2);
+        GraftRules full = with(".", ".", ".", ".", ".", ".", "a..", "b..");
+        is("take from a full shelf", full.take(6), 7);
+        is("the last one moves", full.tree(6, 0), code("b.."));
     }
 
     // ---- promise 16
