@@ -1,7 +1,5 @@
 /** For each promise of the document: ordinary inputs, the edges it names, and each refusal. */
-public final class PromisesTest {
-    private static final int NONE = -1, UNKNOWN = -1000000001, OUTSIDE = -1000000002, NOT = -1000000003, FULL = -1000000004;
-    private static final int LOW = Integer.MIN_VALUE, HIGH = Integer.MAX_VALUE;
+public final class PromisesTest extends Bench {
     private static final Due DUE = new Due();
 
     public static void main(String[] args) {
@@ -44,35 +42,6 @@ public final class PromisesTest {
 
     private static void is(String what, long got, long want) {
         DUE.is(what, got, want);
-    }
-
-    private static int type(GraftRules x, String typed) {
-        for (int i = 0; i < typed.length(); i++) {
-            x.feed(typed.charAt(i));
-        }
-        return x.tell();
-    }
-
-    private static GraftRules with(String... trees) {
-        GraftRules x = new GraftRules();
-        for (String tree : trees) {
-            type(x, tree);
-        }
-        return x;
-    }
-
-    private static int code(String typed) {
-        return Integer.parseInt(typed.replace('.', '0').replace('a', '1').replace('b', '2'), 3);
-    }
-
-    /** The rules 0 to 4, 5 to 3, 6 to 1, 7 to 2, by which some trees take very long. */
-    private static GraftRules longWays(String... trees) {
-        GraftRules x = with(trees);
-        x.fate(0, 2, 4);
-        x.fate(5, 2, 3);
-        x.fate(6, 2, 1);
-        x.fate(7, 2, 2);
-        return x;
     }
 
     // ---- promise 1
@@ -891,19 +860,6 @@ public final class PromisesTest {
         is("undo the fate", x.undo(1), 2);
         is("its pattern", x.pattern(0, 0), 0);
         is("undo both tells", x.undo(2), 0);
-    }
-
-    /** One number for the shelf and the fates. */
-    private static int mark(GraftRules x) {
-        int mark = x.told(0);
-        for (int t = 0; t < x.told(0); t++) {
-            mark = 31 * mark + x.tree(t, 0);
-            mark = 31 * mark + x.tree(t, 1);
-        }
-        for (int p = 0; p < 8; p++) {
-            mark = 31 * mark + 10 * x.pattern(p, 0) + x.pattern(p, 1);
-        }
-        return mark;
     }
 
     private static void undoKeepsTwenty() {
