@@ -1,3 +1,4 @@
+import java.io.DataInputStream;
 import java.io.IOException;
 import java.lang.reflect.Field;
 import java.lang.reflect.Method;
@@ -22,6 +23,9 @@ public final class LanguageTest {
         "int goBack(int)"};
     private static final String[] RULED_OUT = {"throw", "throws", "try", "catch", "finally", "synchronized", "assert",
         "->", "::", "Exact", "System.out", "System.err", "nanoTime", "currentTimeMillis", "Random", "Thread"};
+    // What the class uses of rule 4; another function of the library is looked up there, then put here.
+    private static final List<String> LIBRARY = List.of("java/lang/Object.<init>", "java/lang/Math.max",
+        "java/lang/Math.min", "java/lang/Math.floorMod", "java/lang/System.arraycopy", "java/util/Arrays.fill");
     private static final Due DUE = new Due();
 
     public static void main(String[] args) throws IOException {
@@ -37,6 +41,7 @@ public final class LanguageTest {
         for (Class<?> each : classes) {
             fieldsOf(each);
             methodsOf(each);
+            libraryOf(each);
         }
         words(source);
         madeInConstructorsAlone(source);
@@ -90,6 +95,39 @@ public final class LanguageTest {
             if (each != GraftRules.class || Modifier.isPrivate(method.getModifiers())) {
                 for (String open : FACE) {
                     DUE.isTrue(method + " has a name of its own", !open.contains(" " + method.getName() + "("));
+                }
+            }
+        }
+    }
+
+    /** Each function that the compiled class calls stands in its pool: a class and a name, told by their numbers. */
+    private static void libraryOf(Class<?> each) throws IOException {
+        try (DataInputStream in = new DataInputStream(each.getResourceAsStream(each.getName() + ".class"))) {
+            in.skipNBytes(8);
+            int size = in.readUnsignedShort();
+            String[] texts = new String[size];
+            int[] firsts = new int[size];
+            int[] seconds = new int[size];
+            boolean[] functions = new boolean[size];
+            for (int i = 1; i < size; i++) {
+                int tag = in.readUnsignedByte();
+                functions[i] = tag == 10 || tag == 11;
+                switch (tag) {
+                    case 1: texts[i] = in.readUTF(); break;
+                    case 7: case 8: case 16: case 19: case 20: firsts[i] = in.readUnsignedShort(); break;
+                    case 15: in.skipNBytes(3); break;
+                    case 5: case 6: in.skipNBytes(8); i++; break;
+                    default:
+                        firsts[i] = in.readUnsignedShort();
+                        seconds[i] = in.readUnsignedShort();
+                        break;
+                }
+            }
+            for (int i = 1; i < size; i++) {
+                if (functions[i]) {
+                    String owner = texts[firsts[firsts[i]]];
+                    String name = owner + "." + texts[firsts[seconds[i]]];
+                    DUE.isTrue(each + " calls " + name, owner.startsWith("GraftRules") || LIBRARY.contains(name));
                 }
             }
         }
